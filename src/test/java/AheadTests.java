@@ -106,8 +106,8 @@ final class AheadTests {
         Checks.gives(x, "for one", x.planted(1), 1);
         Checks.due("all is as it was", Shot.of(x), before);
         x.cut(0, true);
-        Checks.gives(x, "the first of all", x.plant(5), 0);
         Checks.gives(x, "never", x.planted(5), 0);
+        Checks.gives(x, "the first of all", x.plant(5), 0);
         KiteLand y = Checks.land(SHORT_LIVED);
         Checks.gives(y, "until the CUT", y.planted(12), 2);
     }
@@ -234,6 +234,9 @@ final class AheadTests {
         flies(x, 4, 0, 1, 1, 1);
         flies(x, 4, 0, 3, 3, 1, 0, 0);
         Checks.due("nothing is CUT by asking", x.told(9), 0);
+        KiteLand z = Checks.land("land 9 by 7;kite a at 8 6 size 0;kite b at 0 3 size 0;");
+        Checks.gives(z, "the second KITE", z.fly(1, 3, 3, 2), 2);
+        Checks.gives(z, "its step", z.flyAt(0), 2);
         // b is the shorter, and stands ahead of a by the law
         KiteLand y = Checks.land("land 9 by 7;law 2;kite a at 0 1 size 0 string 7;kite b at 2 0 size 2 string 6 veers 2;");
         flies(y, 4, 2, 1, 1, 3);

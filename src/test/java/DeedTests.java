@@ -140,7 +140,10 @@ final class DeedTests {
 
     static void promise30_walk() {
         KiteLand x = Checks.land("land 3 by 2;kite a at 1 1;kite b at 2 0;");
+        Checks.gives(x, "stays", x.walk(0, 0), 11);
+        Checks.due("not WALKED", x.kite(0, 6), 0);
         Checks.gives(x, "north", x.walk(0, 1), 1);
+        Checks.due("WALKED one", x.kite(0, 6), 1);
         Checks.gives(x, "east", x.walk(0, 2), 2);
         Checks.gives(x, "south", x.walk(0, 3), 12);
         Checks.gives(x, "west", x.walk(0, 4), 11);

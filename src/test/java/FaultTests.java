@@ -64,6 +64,7 @@ final class FaultTests {
         county(0, "land9by7;noon11;law2;wind 0 7 3;");
         county(0, "land 0009 by\n0007\n;");
         county(0, LAND + "kite a at 8 6 size 2 string 9 needs 3 veers 7;kite b at 0 0 veers 0;kite d at 0 0 string 0 veers 1;");
+        county(0, LAND + "kite zz at 0 0;crop zazz at 0 0 wants 1;tenant z at 0 0 of zz;");
         county(0, LAND + "crop abcdefgh at 0 0 wants 99;crop b at 8 6 wants 1;");
         county(0, LAND + "kite lan at 0 0;kite lands at 0 0;kite endd at 0 0;kite p at 0 0;");
         county(0, LAND + many(6, "kite k", " at 0 0;") + many(8, "crop c", " at 0 0 wants 1;") + many(6, "tenant t", " at 1 1 of kf;"));
@@ -99,6 +100,11 @@ final class FaultTests {
         county(2, "#x");
         county(2, "#;");
         county(2, "#7");
+        county(2, "#mand 9 by 7;");
+        county(2, "#lanb 9 by 7;");
+        county(2, LAND + "#mind 0 0 0;");
+        county(2, LAND + "#moon 1;");
+        county(2, LAND + "kite z #zt 0 0;");
         county(2, "land#");
         county(2, "land  #");
         county(2, "land 9 #9");
@@ -135,6 +141,8 @@ final class FaultTests {
         seasons(2, "when up a;#");
         seasons(2, "loop 2;end;#end;");
         seasons(2, "#kite");
+        seasons(2, "#four 1;");
+        seasons(2, "#zoop 1;");
         seasons(2, "#purse a<1;");
         seasons(2, "hour #a;");
         seasons(2, "hour 1 #1;");

@@ -1,7 +1,7 @@
 /** Promises 61 and 62: MARKS. */
 final class MarkTests {
     private static final String FARM = "land 9 by 7;wind 3 1 1;noon 2;kite a at 0 3;kite b at 8 6 size 2 string 2 needs 2 veers 1;"
-            + "crop c at 2 3 wants 2;tenant t at 2 6 of a;";
+            + "crop c at 2 3 wants 2;tenant t at 2 6 of a;tenant u at 0 0 of b;";
 
     private MarkTests() {
     }

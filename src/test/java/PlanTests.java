@@ -46,6 +46,16 @@ final class PlanTests {
         covers(x, 0, 2, 1, 3);
     }
 
+    static void promise46and47_asManyAsSix() {
+        KiteLand x = Checks.land("land 9 by 1;kite a at 0 0 size 0 string 0;kite b at 1 0 size 0 string 0;kite d at 2 0 size 0 string 0;"
+                + "kite e at 3 0 size 0 string 0;kite f at 4 0 size 0 string 0;kite g at 5 0 size 0 string 0;");
+        covers(x, 0, 63, 5, 4, 3, 2, 1, 0);
+        covers(x, 0, 62, 5, 4, 3, 2, 1);
+        covers(x, 0, 32, 5);
+        x.cut(5, true);
+        refusesCover(x, 6, 0, 1, 0);
+    }
+
     static void promise46and47_wrongNumbersInTheirOrder() {
         KiteLand x = Checks.land(THREE);
         Checks.tray(x, 0, 3, 0, 9, 33);
@@ -105,6 +115,17 @@ final class PlanTests {
         Checks.gives(x, "5 do", x.settle(5), 2);
     }
 
+    static void promise48_sixTenants() {
+        KiteLand x = Checks.land("land 9 by 1;kite a at 1 0 size 2 string 0;kite b at 8 0 string 0;tenant o at 0 0 of a;"
+                + "tenant p at 0 0 of a;tenant q at 0 0 of a;tenant r at 0 0 of a;tenant s at 0 0 of b;tenant t at 8 0 of b;");
+        int[] due = {2, 3, 4, 5, 5, 5, 5, 6, 6};
+        for (int steps = 0; steps < due.length; steps++) {
+            Checks.gives(x, "settle " + steps, x.settle(steps), due[steps]);
+        }
+        x.lease(4, 0);
+        Checks.gives(x, "five for four FIELDS of a, and t", x.settle(20), 5);
+    }
+
     static void promise49_strip() {
         KiteLand x = Checks.land(THREE + "kite e at 0 6 needs 3;wind 5 2 0;");
         x.tray(0, 0, 11);
@@ -126,6 +147,12 @@ final class PlanTests {
         x.strip(2, 3, 0);
         Checks.due("CUT or not, in any HOUR", Checks.row(x, 0, 9), "0 0 0 11 0 0 0 0 0");
         Checks.due("CUT still", x.told(9), 4);
+        x.walk(0, 1);
+        x.strip(0, 3, 0);
+        Checks.due("where it is now", Checks.row(x, 0, 9), "0 10 10 10 0 0 0 0 0");
+        x.sell(0, -3);
+        x.strip(0, 2, 0);
+        Checks.due("from the first column on", Checks.row(x, 0, 9), "11 10 0 0 0 0 0 0 0");
     }
 
     static void promise49_wrongNumbers() {
@@ -150,6 +177,8 @@ final class PlanTests {
         x.cut(0, true);
         Checks.gives(x, "CUT or not", x.suspects(3, 0), 1 + 8);
         Checks.gives(x, "not in row 2", x.suspects(2, 0), 0);
+        x.walk(3, 3);
+        Checks.gives(x, "a alone", x.suspects(3, 0), 1);
         x.tray(1, 2, 9);
         Checks.gives(x, "all in row 6", x.suspects(6, 1), 15);
         Checks.gives(x, "all but b in row 1", x.suspects(1, 1), 13);
@@ -175,8 +204,8 @@ final class PlanTests {
         Checks.gives(x, "a, b and d", x.strips(2), 3);
         Checks.gives(x, "telling", x.telling(), 2);
         x.walk(0, 1);
-        Checks.gives(x, "a, b and d with a in row 1", x.strips(1), 3);
         Checks.gives(x, "the first of several", x.telling(), 1);
+        Checks.gives(x, "a, b and d with a in row 1", x.strips(1), 3);
         x.cut(0, true);
         Checks.gives(x, "CUT or not", x.strips(1), 3);
         Checks.refuses(x, 1, "row 3", () -> x.strips(3));
@@ -225,6 +254,23 @@ final class PlanTests {
         duels(x, 1, 0, 1, 0, 0);
         // b has to leave in time: staying or going nearer, a takes its FIELD
         duels(x, 1, 0, 2, 0, 2);
+        // the other ways
+        KiteLand west = Checks.land("land 9 by 7;kite a at 2 2 size 0 string 0;kite b at 1 2 size 0 string 0;");
+        Checks.gives(west, "west by itself", west.duelStep(0, 1, 1), 4);
+        duels(west, 0, 1, 1, 1, 4);
+        west.walk(1, 1);
+        Checks.gives(west, "out of reach now", west.duelStep(0, 1, 1), 0);
+        west.walk(1, 2);
+        duels(west, 0, 1, 1, 1, 1);
+        west.walk(0, 1);
+        west.walk(0, 1);
+        duels(west, 0, 1, 1, 1, 3);
+        // staying costs b its FIELD, going east it is free for four turns, in a LAND that wide
+        KiteLand six = Checks.land("land 6 by 1;kite a at 2 0 size 0 string 0;kite b at 3 0 size 0 string 0;");
+        duels(six, 1, 0, 4, 0, 2);
+        KiteLand four = Checks.land("land 4 by 1;kite a at 1 0 size 0 string 0;kite b at 3 0 size 0 string 0;");
+        duels(four, 1, 0, 2, 0, 0);
+        duels(four, 1, 0, 4, -1, 0);
         KiteLand y = Checks.land("land 2 by 1;kite a at 0 0 size 0 string 0;kite b at 1 0 size 0 string 0;");
         // no way out for b: in either FIELD a takes it
         duels(y, 1, 0, 2, -1, 0);

@@ -147,6 +147,13 @@ final class SeasonTests {
         String crossed = "land 9 by 7;kite a at 0 3 string 6;kite b at 2 1 string 6 veers 2;";
         lived(lives(crossed, "hour 2;mend a;mend b;hour 1;mend a;hour 1;cut a;", 0, 7), 0, 4, 0, 4, 0);
         lived(lives(crossed, "cut a;hour 3;", 0, 2), 0, 3, 0, 0, 0);
+        KiteLand x = lives(crossed, "hour 1;loop 99;walk a 3;walk a 1;walk a 1;walk a 3;end;", 0, 300);
+        lived(x, 0, 1, 298, 2, 1);
+        x.live(0);
+        lived(x, 0, 1, 298, 0, 1);
+        Checks.seasons(x, "stop;");
+        x.live(0);
+        lived(x, 0, 0, 0, 0, 0);
     }
 
     static void promise58_wrongNumbers() {

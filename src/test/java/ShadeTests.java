@@ -257,6 +257,29 @@ final class ShadeTests {
         Checks.refuses(y, 6, "no LAND", () -> y.busiest());
     }
 
+    static void promise21to28_theFirstFieldAndTheLastKite() {
+        KiteLand x = Checks.land("land 9 by 7;kite a at 0 0 size 0 string 0;kite b at 8 0 size 0 string 0;"
+                + "kite d at 0 6 size 0 string 0;kite e at 8 6 size 0 string 0;kite f at 4 3 size 1 string 0;kite g at 0 0 size 1 string 0;");
+        Checks.gives(x, "a has the first", x.estate(0, 0), 1);
+        Checks.gives(x, "e has the last", x.estate(3, 0), 1);
+        Checks.gives(x, "g has what is beside a", x.estate(5, 0), 3);
+        Checks.gives(x, "both", x.shaders(0, 0, 0), 33);
+        Checks.gives(x, "disputed", x.disputed(0), 1);
+        Checks.gives(x, "nobodys", x.nobodys(0), 63 - 16);
+        Checks.gives(x, "greatest", x.greatest(), 4);
+        Checks.gives(x, "needed", x.needed(), 4);
+        Checks.gives(x, "nobody is doomed", x.doomed(), 0);
+        Checks.gives(x, "UP", x.told(8), 63);
+        x.cut(4, true);
+        Checks.gives(x, "greatest without f", x.greatest(), 5);
+        Checks.gives(x, "needed without f", x.needed(), 5);
+        x.cut(5, true);
+        Checks.gives(x, "CUT", x.told(9), 48);
+        Checks.gives(x, "the first FIELD is a's alone", x.needed(), 0);
+        Checks.gives(x, "nobodys", x.nobodys(0), 59);
+        Checks.refuses(x, 1, "a seventh", () -> x.estate(6, 0));
+    }
+
     static void promise28_greatest() {
         KiteLand x = Checks.land(THREE);
         Checks.gives(x, "b", x.greatest(), 1);

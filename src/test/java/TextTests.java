@@ -62,6 +62,48 @@ final class TextTests {
         Checks.due("IDLE", x.tenant(0, 4), 0);
     }
 
+    static void promise10_whatWasTriedLeavesNoTrace() {
+        String old = "land 9 by 7;noon 3;law 1;wind 0 2 3;kite a at 0 3 size 0 string 6 needs 2 veers 0;"
+                + "kite b at 2 1 size 2 string 6 veers 2;crop c at 8 0 wants 1;crop d at 4 3 wants 2;tenant t at 6 6 of a;"
+                + "tenant u at 8 3 of b;";
+        KiteLand x = Checks.land(old);
+        x.ripe(0);
+        x.tenantIn(0, 40);
+        x.purseIn(0, 40);
+        x.fly(0, 0, 0, 5);
+        x.cutIn(0);
+        String fresh = "land 9 by 7;kite a at 1 1;kite b at 2 2;crop c at 3 3 wants 4;crop d at 4 4 wants 5;"
+                + "tenant t at 5 5 of a;tenant u at 6 6 of b;";
+        Checks.county(x, fresh);
+        KiteLand y = Checks.land(fresh);
+        y.fly(0, 0, 0, 5);
+        x.fly(0, 0, 0, 5);
+        Checks.due("all", Shot.of(x), Shot.of(y));
+        Checks.county(x, old + "crop e at 0 0 wants 0;");
+        x.county(0);
+        Checks.due("noon", x.told(5), 6);
+        Checks.county(x, "land 1 by 1;noon 2;law 2;");
+        Checks.gives(x, "noon and law once more", Checks.county(x, "land 1 by 1;noon 2;law 2;"), 0);
+    }
+
+    static void promise10_nineHundredBytes() {
+        StringBuilder text = new StringBuilder("land 9 by 7;");
+        while (text.length() < 900 - 12) {
+            text.append(' ');
+        }
+        KiteLand x = new KiteLand();
+        Checks.gives(x, "the last of them ends a PART", Checks.county(x, text + "wind 11 0 3;"), 0);
+        Checks.due("WIND", x.wind(11, 1), 3);
+        Checks.due("a NUMBER is the last", Checks.county(x, text + "wind 11 0  3"), -1);
+        Checks.due("its FAULT is behind it", x.fault(0) * 1000 + x.fault(1), 2900);
+        Checks.due("a WORD is the last", Checks.county(x, text + "law 1;kite z"), -1);
+        Checks.due("its FAULT is behind it, too", x.fault(0) * 1000 + x.fault(1), 2900);
+        Checks.due("nothing but digits", Checks.county(x, "1".repeat(900)), -1);
+        Checks.due("its FAULT", x.fault(0) * 1000 + x.fault(1), 1000);
+        Checks.due("nothing but letters", Checks.county(x, "z".repeat(900)), -1);
+        Checks.due("its FAULT", x.fault(0) * 1000 + x.fault(1), 2000);
+    }
+
     static void promise10_theFirstBytesAlone() {
         KiteLand x = new KiteLand();
         Checks.feed(x, "land 2 by 3; kite ");
@@ -117,6 +159,18 @@ final class TextTests {
         Checks.gives(x, "300", x.seasons(300), 1);
         Checks.feed(x, "hour 1;");
         Checks.refuses(x, 1, "more than the tape has", () -> x.seasons(21));
+    }
+
+    static void promise11_aFaultLeavesNoTrace() {
+        KiteLand x = Checks.land(WHOLE);
+        Checks.seasons(x, "when purse a < 9;hour 1;loop 3;hour 1;");
+        Checks.due("an open when", x.fault(0), 2);
+        Checks.gives(x, "nothing is open", Checks.seasons(x, "when up bb;stop;end;hour 1;"), 3);
+        Checks.due("an end too many", Checks.seasons(x, "end;"), -1);
+        Checks.gives(x, "bb is UP, and stops", x.live(0), 2);
+        x.cut(1, true);
+        Checks.gives(x, "bb is not", x.live(0), 2);
+        Checks.due("HOUR", x.told(7), 1);
     }
 
     static void promise11_theOldOnesStayWithAFault() {

@@ -168,6 +168,7 @@ final class TrayTests {
     static void promise07_readTellsWhatWasWritten() {
         KiteLand x = new KiteLand();
         Checks.tray(x, 3, 3, 4, -1, 6);
+        x.told(99);
         Checks.gives(x, "first", x.read(3, 0), 4);
         Checks.gives(x, "-1 with STATUS 0", x.read(3, 1), -1);
         Checks.gives(x, "last", x.read(3, 2), 6);
