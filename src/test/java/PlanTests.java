@@ -208,6 +208,8 @@ final class PlanTests {
         Checks.gives(x, "a, b and d with a in row 1", x.strips(1), 3);
         x.cut(0, true);
         Checks.gives(x, "CUT or not", x.strips(1), 3);
+        x.walk(0, 1);
+        Checks.gives(x, "without a in row 1", x.strips(1), 2);
         Checks.refuses(x, 1, "row 3", () -> x.strips(3));
         Checks.refuses(x, 1, "row -1", () -> x.strips(-1));
     }

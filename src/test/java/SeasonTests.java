@@ -41,6 +41,8 @@ final class SeasonTests {
     static void promise58and59_whatIsMissed() {
         KiteLand x = lives("land 1 by 1;kite a at 0 0;", "walk a 1;walk a 2;walk a 3;walk a 4;any a;mend a;cut a;cut a;mend a;", 0, 9);
         lived(x, 7, 0, 0, 0, 0);
+        x.live(0);
+        lived(x, 7, 0, 0, 0, 0);
         Checks.due("WALKED", x.kite(0, 6), 0);
         Checks.due("CUT", x.told(9), 0);
     }
@@ -109,6 +111,7 @@ final class SeasonTests {
         }
         KiteLand x = lives(text.toString(), "hour 1;when ripe cv;walk a 1;end;when ripe cu;walk a 1;end;", 0, 4);
         Checks.due("of the last alone", x.kite(0, 1), 2);
+        Checks.due("RIPE", x.told(10), 128);
     }
 
     static void promise58_loops() {

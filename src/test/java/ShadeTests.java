@@ -270,6 +270,9 @@ final class ShadeTests {
         Checks.gives(x, "needed", x.needed(), 4);
         Checks.gives(x, "nobody is doomed", x.doomed(), 0);
         Checks.gives(x, "UP", x.told(8), 63);
+        Checks.gives(x, "hour", x.hour(1), 0);
+        Checks.gives(x, "telling", x.telling(), 0);
+        Checks.refusesFlag(x, 6, "share", () -> x.share(5));
         x.cut(4, true);
         Checks.gives(x, "greatest without f", x.greatest(), 5);
         Checks.gives(x, "needed without f", x.needed(), 5);

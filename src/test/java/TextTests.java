@@ -67,18 +67,24 @@ final class TextTests {
                 + "kite b at 2 1 size 2 string 6 veers 2;crop c at 8 0 wants 1;crop d at 4 3 wants 2;tenant t at 6 6 of a;"
                 + "tenant u at 8 3 of b;";
         KiteLand x = Checks.land(old);
-        x.ripe(0);
-        x.tenantIn(0, 40);
-        x.purseIn(0, 40);
-        x.fly(0, 0, 0, 5);
-        x.cutIn(0);
         String fresh = "land 9 by 7;kite a at 1 1;kite b at 2 2;crop c at 3 3 wants 4;crop d at 4 4 wants 5;"
                 + "tenant t at 5 5 of a;tenant u at 6 6 of b;";
+        String due = Shot.of(Checks.land(fresh));
+        x.purseIn(0, 40);
         Checks.county(x, fresh);
-        KiteLand y = Checks.land(fresh);
-        y.fly(0, 0, 0, 5);
-        x.fly(0, 0, 0, 5);
-        Checks.due("all", Shot.of(x), Shot.of(y));
+        Checks.due("behind purseIn", Shot.of(x), due);
+        Checks.county(x, old);
+        x.cutIn(0);
+        Checks.county(x, fresh);
+        Checks.due("behind cutIn", Shot.of(x), due);
+        Checks.county(x, old);
+        x.fly(1, 0, 0, 5);
+        Checks.county(x, fresh);
+        Checks.due("WALKED behind fly", x.kite(1, 6), 0);
+        Checks.county(x, old);
+        x.ripe(1);
+        Checks.county(x, fresh);
+        Checks.due("HOUR behind ripe", x.told(7), 0);
         Checks.county(x, old + "crop e at 0 0 wants 0;");
         x.county(0);
         Checks.due("noon", x.told(5), 6);
