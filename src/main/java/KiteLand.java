@@ -1981,6 +1981,7 @@ public final class KiteLand {
     /** Lives SEASONS and keeps what became of them. */
     private static final class Life {
         private static final int MOST_STEPS = 300;
+        private static final int WAYS = 4;
         /** Far above 300 STEPS with the ends of empty loops between them. */
         private static final int MOST_MOVES = 1000000;
 
@@ -2043,7 +2044,7 @@ public final class KiteLand {
                 case Seasons.WALK: stepOrMiss(county, thing, number); break;
                 case Seasons.CUT: putCut(county.kites[thing], true); break;
                 case Seasons.MEND: putCut(county.kites[thing], false); break;
-                case Seasons.ANY: stepOrMiss(county, thing, draw(4) + 1); break;
+                case Seasons.ANY: stepOrMiss(county, thing, drawStep()); break;
                 case Seasons.WHEN: return holds(program, at, county, sky) ? at + 1 : program.partners[at] + 1;
                 case Seasons.LOOP: rounds[at] = number; break;
                 default: return program.lines;
@@ -2079,9 +2080,10 @@ public final class KiteLand {
             }
         }
 
-        private int draw(int n) {
+        /** A draw by the four ways to WALK, of which 0, to stay, is none. */
+        private int drawStep() {
             drawn = (drawn * 3001 + 11197) % 65536;
-            return drawn / 8 % n;
+            return drawn / 8 % WAYS + 1;
         }
     }
 

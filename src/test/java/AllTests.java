@@ -9,7 +9,7 @@ import java.util.List;
 public final class AllTests {
     private static final Class<?>[] TESTS = {TrayTests.class, TextTests.class, FaultTests.class, ShadeTests.class,
         DeedTests.class, AheadTests.class, PlanTests.class, SeasonTests.class, MarkTests.class, ModelTests.class,
-        RoomTests.class};
+        RoomTests.class, EdgeTests.class, RefusalTests.class, GridTests.class};
 
     private AllTests() {
     }

@@ -1,9 +1,4 @@
 import java.lang.reflect.Method;
-import java.lang.reflect.Modifier;
-import java.nio.charset.StandardCharsets;
-import java.util.ArrayList;
-import java.util.Comparator;
-import java.util.List;
 import java.util.Random;
 
 /** Random runs of 512 calls, in which the class and the model have to answer alike. */
@@ -12,20 +7,12 @@ final class RandomRuns {
 
     private final Random random;
     private final RandomTexts texts;
-    private final KiteLand land = new KiteLand();
-    private final Model model = new Model();
-    private final List<String> calls = new ArrayList<>();
-    private final List<Method> methods = new ArrayList<>();
+    private final Pair pair = new Pair();
+    private final KiteLand land = pair.land;
 
     private RandomRuns(long seed) {
         random = new Random(seed);
         texts = new RandomTexts(random);
-        for (Method m : KiteLand.class.getDeclaredMethods()) {
-            if (Modifier.isPublic(m.getModifiers())) {
-                methods.add(m);
-            }
-        }
-        methods.sort(Comparator.comparing(Method::getName));
     }
 
     /** Null, or what went wrong in the run of this seed. */
@@ -34,13 +21,13 @@ final class RandomRuns {
         try {
             return run.run();
         } catch (ReflectiveOperationException e) {
-            return "seed " + seed + ": " + e.getCause() + " behind " + run.calls;
+            return "seed " + seed + ": " + e.getCause() + " behind " + run.pair.calls();
         }
     }
 
     private String run() throws ReflectiveOperationException {
-        String wrong = tell(texts.county(), "county");
-        while (wrong == null && calls.size() < CALLS) {
+        String wrong = pair.tell(texts.county(), "county");
+        while (wrong == null && pair.calls().size() < CALLS) {
             wrong = next();
         }
         return wrong;
@@ -50,16 +37,16 @@ final class RandomRuns {
         int which = random.nextInt(100);
         if (which < 2) {
             String text = texts.county();
-            return tell(random.nextInt(3) > 0 ? texts.spoiled(text) : text, "county");
+            return pair.tell(random.nextInt(3) > 0 ? texts.spoiled(text) : text, "county");
         }
         if (which < 7) {
             String text = texts.seasons(land.told(2), land.told(3));
-            return tell(random.nextInt(4) == 0 ? texts.spoiled(text) : text, "seasons");
+            return pair.tell(random.nextInt(4) == 0 ? texts.spoiled(text) : text, "seasons");
         }
         if (which < 10) {
             return tray();
         }
-        Method m = methods.get(random.nextInt(methods.size()));
+        Method m = pair.methods().get(random.nextInt(pair.methods().size()));
         if (m.getName().equals("county") && random.nextInt(4) > 0) {
             return null;
         }
@@ -69,19 +56,19 @@ final class RandomRuns {
             arguments[i] = type == int.class ? (Object) number(m.getName(), i)
                     : type == long.class ? (Object) random.nextLong() : (Object) random.nextBoolean();
         }
-        return call(m, arguments);
+        return pair.call(m, arguments);
     }
 
     /** A tray that suits cover, strip and suspects more often than chance would have it. */
     private String tray() throws ReflectiveOperationException {
         int tray = random.nextInt(4);
-        String wrong = call("tray", tray, random.nextInt(4), 9 + random.nextInt(12));
+        String wrong = pair.call("tray", tray, random.nextInt(4), 9 + random.nextInt(12));
         int wide = Math.max(1, land.told(0));
         int deep = Math.max(1, land.told(1));
         for (int i = 0; i < 5 && wrong == null; i++) {
-            wrong = call("write", tray, random.nextInt(9), (long) (random.nextInt(deep) * 10 + random.nextInt(wide)));
+            wrong = pair.call("write", tray, random.nextInt(9), (long) (random.nextInt(deep) * 10 + random.nextInt(wide)));
         }
-        return wrong != null ? wrong : call("coverSet", tray, 1 + random.nextInt(3), random.nextInt(12));
+        return wrong != null ? wrong : pair.call("coverSet", tray, 1 + random.nextInt(3), random.nextInt(12));
     }
 
     private int number(String name, int i) {
@@ -131,43 +118,5 @@ final class RandomRuns {
 
     private int field(int i) {
         return random.nextInt(land.told(i == 0 ? 0 : 1) + 1);
-    }
-
-    private String tell(String text, String reader) throws ReflectiveOperationException {
-        byte[] bytes = text.getBytes(StandardCharsets.ISO_8859_1);
-        String wrong = call("told", 7);
-        for (int i = 0; i < bytes.length && wrong == null; i += 20) {
-            int[] words = new int[5];
-            for (int j = 0; j < 20; j++) {
-                words[j / 4] = words[j / 4] << 8 | (i + j < bytes.length ? bytes[i + j] & 255 : 0);
-            }
-            wrong = call("feed", words[0], words[1], words[2], words[3], words[4]);
-        }
-        wrong = wrong != null ? wrong : call(reader, bytes.length);
-        wrong = wrong != null ? wrong : call("fault", 0);
-        return wrong != null ? wrong : call("fault", 1);
-    }
-
-    private String call(String name, Object... arguments) throws ReflectiveOperationException {
-        for (Method m : methods) {
-            if (m.getName().equals(name)) {
-                return call(m, arguments);
-            }
-        }
-        throw new IllegalArgumentException(name);
-    }
-
-    private String call(Method m, Object... arguments) throws ReflectiveOperationException {
-        StringBuilder told = new StringBuilder(m.getName()).append('(');
-        for (int i = 0; i < arguments.length; i++) {
-            told.append(i == 0 ? "" : ", ").append(arguments[i]);
-        }
-        calls.add(told.append(')').toString());
-        Object due = Model.class.getMethod(m.getName(), m.getParameterTypes()).invoke(model, arguments);
-        // this call's own STATUS, before land.told() in the choice of the next one's numbers
-        String want = due + " status " + model.status() + " fraction " + model.top() + "/" + model.bottom();
-        Object got = m.invoke(land, arguments);
-        String have = got + " status " + land.status() + " fraction " + land.top() + "/" + land.bottom();
-        return want.equals(have) ? null : told + " answered " + have + ", due is " + want + " behind " + calls;
     }
 }

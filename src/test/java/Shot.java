@@ -1,3 +1,5 @@
+import java.util.function.LongConsumer;
+
 /** All that can be seen of an object, as a text; looking at it leaves the STATUS as it was last seen alone. */
 final class Shot {
     private Shot() {
@@ -40,6 +42,57 @@ final class Shot {
         for (int i = 0; i < 6; i++) {
             text.append(" fly ").append(x.flyAt(i)).append(" lived ").append(x.lived(i));
         }
+        return text.toString();
+    }
+
+    /** What can be asked of an object and leaves all but the FRACTION, a TRAY and flyAt() as it is. */
+    static String asked(KiteLand x) {
+        StringBuilder text = new StringBuilder("\nasked");
+        LongConsumer tell = answer -> text.append(' ').append(answer).append(',').append(x.status());
+        int kites = x.told(2);
+        tell.accept(x.doomed());
+        tell.accept(x.busiest());
+        tell.accept(x.greatest());
+        tell.accept(x.needed());
+        tell.accept(x.telling());
+        tell.accept(x.settle(3));
+        tell.accept(x.plant(9));
+        tell.accept(x.planted(9));
+        for (int hour = 0; hour < 12; hour++) {
+            tell.accept(x.nobodys(hour));
+            tell.accept(x.disputed(hour));
+            tell.accept(x.coverSet(0, 2, hour));
+            for (int column = 0; column < 9; column++) {
+                tell.accept(x.owner(column, column % 7, hour));
+                tell.accept(x.shaders(column, column % 7, hour));
+            }
+            for (int kite = 0; kite < kites; kite++) {
+                tell.accept(x.stands(kite, hour, 0));
+                tell.accept(x.stands(kite, hour, 1));
+                tell.accept(x.estate(kite, hour));
+                tell.accept(x.crosses(kite, (kite + 1) % kites, hour));
+            }
+        }
+        for (int kite = 0; kite < kites; kite++) {
+            tell.accept(x.lulls(kite));
+            tell.accept(x.cutIn(kite));
+            tell.accept(x.purseIn(kite, 20));
+            tell.accept(x.leaseOf(2, 3, kite, 20));
+            tell.accept(x.duel(kite, (kite + 1) % kites, 2));
+            tell.accept(x.duelStep(kite, (kite + 1) % kites, 1));
+            tell.accept(x.share(kite) ? x.top() : -1);
+            tell.accept(x.mean(kite, 7, 2) ? x.top() : -1);
+        }
+        for (int i = 0; i < 8; i++) {
+            tell.accept(x.ripe(i));
+            tell.accept(x.tenantIn(i, 20));
+            tell.accept(x.strips(i));
+            tell.accept(x.suspects(i, 1));
+            tell.accept(x.strip(0, i, 1));
+            tell.accept(x.read(1, i));
+        }
+        tell.accept(x.fly(0, 4, 3, 2));
+        tell.accept(x.flyAt(0));
         return text.toString();
     }
 }
