@@ -839,4 +839,46 @@ final class EdgeTests {
         Checks.gives(west, "west", west.fly(0, 1, 3, 5), 0);
         Checks.gives(west, "where it stands", west.fly(0, 2, 3, 5), 5);
     }
+
+    static void promise29_theSetOfAllThatWereCutInThem() {
+        // a and b CROSS in HOURS 0 on, d and e by the greater force of HOUR 2 alone
+        String text = LAND + "wind 0 2 1;wind 1 2 1;kite a at 0 0 string 9 veers 1;kite b at 2 0 string 9 veers 3;kite f at 8 6 string 0;"
+                + "kite d at 0 5 string 6;kite e at 2 4 string 6 veers 2;";
+        KiteLand x = Checks.land(text);
+        Checks.gives(x, "doomed", x.doomed(), 3);
+        Checks.gives(x, "in three HOURS", x.hour(3), 3 + 8 + 16);
+        KiteLand y = Checks.land(text);
+        Checks.gives(y, "in the first", y.hour(1), 3);
+        Checks.gives(y, "in the second", y.hour(1), 0);
+        Checks.gives(y, "in the third", y.hour(1), 24);
+        KiteLand z = Checks.land(text);
+        Checks.seasons(z, "hour 1;hour 1;hour 1;");
+        z.live(0);
+        Checks.gives(z, "KITES that were CUT", z.lived(3), 4);
+        z.cut(0, false);
+        z.cut(1, false);
+        z.live(0);
+        Checks.gives(z, "each time anew", z.lived(3), 2);
+    }
+
+    static void section3_theLastHourIsNoBoundOfWhatWouldBe() {
+        KiteLand x = Checks.land(LAND + "kite a at 0 3 string 6;kite b at 2 1 string 6 veers 2;crop c at 4 3 wants 99;tenant t at 0 0 of a;");
+        x.cut(0, true);
+        for (int i = 0; i < 101; i++) {
+            x.hour(99);
+        }
+        x.cut(0, false);
+        x.blow(3, 2, 0);
+        x.blow(4, 2, 1);
+        Checks.due("HOUR", x.told(7), 9999);
+        Checks.gives(x, "cutIn goes on to HOUR 10,001", x.cutIn(0), 3);
+        Checks.gives(x, "tenantIn: IDLE, then two HOURS by a's shade", x.tenantIn(0, 2), 1);
+        Checks.gives(x, "leaseOf", x.leaseOf(2, 3, 0, 99), 1);
+        Checks.gives(x, "plant", x.plant(3), 21);
+        x.sell(0, 1);
+        // ten HOURS of each day, but not the first two from now
+        Checks.gives(x, "ripe", x.ripe(0), 9 * 12 + 2 + 9);
+        Checks.refuses(x, 4, "but no HOUR goes by", () -> x.hour(1));
+        Checks.gives(x, "all is as it was", x.told(7), 9999);
+    }
 }
