@@ -1,6 +1,7 @@
 import java.util.Map;
 import java.util.TreeMap;
 import java.util.function.Consumer;
+import java.util.function.Function;
 
 /** Edges that the document names: the last of each row, the least of each number, the end of a day. */
 final class EdgeTests {
@@ -662,8 +663,8 @@ final class EdgeTests {
     }
 
     /** Each call as it can be answered. */
-    private static Map<String, Consumer<KiteLand>> goodCalls() {
-        Map<String, Consumer<KiteLand>> all = new TreeMap<>();
+    private static Map<String, Function<KiteLand, Object>> goodCalls() {
+        Map<String, Function<KiteLand, Object>> all = new TreeMap<>();
         all.put("tray", x -> x.tray(0, 0, 1));
         all.put("write", x -> x.write(1, 0, 1));
         all.put("read", x -> x.read(1, 0));
@@ -724,7 +725,7 @@ final class EdgeTests {
     }
 
     static void promise02_statusIs0BehindEachGoodCallAndOthersLeaveIt() {
-        Map<String, Consumer<KiteLand>> all = goodCalls();
+        Map<String, Function<KiteLand, Object>> all = goodCalls();
         Map<String, Consumer<KiteLand>> none = new TreeMap<>();
         none.put("status", x -> x.status());
         none.put("top", x -> x.top());
@@ -744,18 +745,137 @@ final class EdgeTests {
             Checks.due("status 0 behind " + name, x.status(), 0);
         });
         all.forEach((name, call) -> {
-            KiteLand x = Checks.land(LAND + "kite a at 0 0 string 0;kite b at 8 6;kite d at 4 3;crop c at 0 0 wants 1;tenant t at 0 0 of a;");
-            Checks.seasons(x, "hour 1;");
-            x.live(0);
-            x.fly(0, 0, 0, 1);
-            x.cut(2, true);
-            x.mark();
-            x.tray(1, 0, 9);
+            KiteLand x = midst();
             x.told(-1);
             Checks.due("a refused call", x.status(), 1);
-            call.accept(x);
+            call.apply(x);
             Checks.due("status behind " + name, x.status(), 0);
         });
+    }
+
+    static void promise02_statusIs0BehindEachThingTold() {
+        int[] many = {11, 2, 8, 4, 5, 5, 2};
+        for (int which = 0; which < many.length; which++) {
+            for (int what = 0; what < many[which]; what++) {
+                KiteLand x = midst();
+                x.told(-1);
+                switch (which) {
+                    case 0: x.told(what); break;
+                    case 1: x.wind(0, what); break;
+                    case 2: x.kite(0, what); break;
+                    case 3: x.crop(0, what); break;
+                    case 4: x.tenant(0, what); break;
+                    case 5: x.lived(what); break;
+                    default: x.stands(0, 0, what); break;
+                }
+                Checks.due("status behind " + which + " by " + what, x.status(), 0);
+            }
+        }
+    }
+
+    private static KiteLand midst() {
+        KiteLand x = Checks.land("land 4 by 3;kite a at 0 0 string 0;kite b at 3 2;kite d at 1 1;crop c at 0 0 wants 1;tenant t at 0 0 of a;");
+        Checks.seasons(x, "hour 1;");
+        x.live(0);
+        x.fly(0, 0, 0, 1);
+        x.cut(2, true);
+        x.mark();
+        x.tray(1, 0, 4);
+        x.tray(2, 0, 3);
+        return x;
+    }
+
+    private static String grand() {
+        StringBuilder text = new StringBuilder(LAND).append("law 2;noon 0;wind 0 4 0;");
+        for (char name = 'p'; name < 'v'; name++) {
+            text.append("kite k").append(name).append(" at 8 6 size 2 needs 3;");
+        }
+        for (char name = 'p'; name < 'x'; name++) {
+            text.append("crop c").append(name).append(" at 8 6 wants 99;");
+        }
+        for (char name = 'p'; name < 'v'; name++) {
+            text.append("tenant t").append(name).append(" at 8 6 of ku;");
+        }
+        return text.toString();
+    }
+
+    /** A COUNTY read up to its FAULT, little or grand, is no part of any answer. */
+    static void promise10_noCallSeesACountyThatWasNotTaken() {
+        for (String text : new String[] {"x", grand() + "x"}) {
+            goodCalls().forEach((name, call) -> {
+                KiteLand twin = midst();
+                KiteLand x = midst();
+                Checks.county(x, text);
+                Checks.due("a FAULT", x.status(), 9);
+                String want = call.apply(twin) + " by " + twin.status();
+                Checks.due(name + " behind a FAULT", call.apply(x) + " by " + x.status(), want);
+            });
+            badCalls().forEach((name, call) -> {
+                KiteLand x = midst();
+                Checks.county(x, text);
+                Object got = call.apply(x);
+                Checks.due(name + " behind a FAULT", String.valueOf(got), got instanceof Boolean ? "false" : "-1");
+                Checks.due("its STATUS", x.status(), name.startsWith("too few") ? 3 : 1);
+            });
+            KiteLand none = new KiteLand();
+            Checks.county(none, text);
+            Checks.refuses(none, 6, "busiest", () -> none.busiest());
+            Checks.county(none, text);
+            Checks.refuses(none, 6, "plant", () -> none.plant(1));
+            Checks.county(none, text);
+            Checks.refuses(none, 6, "planted", () -> none.planted(1));
+            Checks.county(none, text);
+            Checks.refuses(none, 6, "telling", () -> none.telling());
+            Checks.county(none, text);
+            Checks.refusesFlag(none, 6, "shaded", () -> none.shaded());
+            Checks.gives(none, "nobodys", none.nobodys(0), 0);
+        }
+    }
+
+    /** Each call by a KITE, CROP, TENANT or FIELD just behind the last of midst(). */
+    private static Map<String, Function<KiteLand, Object>> badCalls() {
+        Map<String, Function<KiteLand, Object>> all = new TreeMap<>();
+        all.put("kite", x -> x.kite(3, 0));
+        all.put("crop", x -> x.crop(1, 0));
+        all.put("tenant", x -> x.tenant(1, 0));
+        all.put("stands", x -> x.stands(3, 0, 0));
+        all.put("owner column", x -> x.owner(4, 0, 0));
+        all.put("owner row", x -> x.owner(0, 3, 0));
+        all.put("shaders column", x -> x.shaders(4, 0, 0));
+        all.put("shaders row", x -> x.shaders(0, 3, 0));
+        all.put("estate", x -> x.estate(3, 0));
+        all.put("crosses a", x -> x.crosses(3, 0, 0));
+        all.put("crosses b", x -> x.crosses(0, 3, 0));
+        all.put("lulls", x -> x.lulls(3));
+        all.put("walk", x -> x.walk(3, 0));
+        all.put("cut", x -> x.cut(3, true));
+        all.put("sell", x -> x.sell(3, 0));
+        all.put("lease tenant", x -> x.lease(1, 1));
+        all.put("lease kite", x -> x.lease(0, 3));
+        all.put("reap", x -> x.reap(1));
+        all.put("ripe", x -> x.ripe(1));
+        all.put("leaseOf column", x -> x.leaseOf(4, 0, 0, 1));
+        all.put("leaseOf row", x -> x.leaseOf(0, 3, 0, 1));
+        all.put("leaseOf kite", x -> x.leaseOf(0, 0, 3, 1));
+        all.put("purseIn", x -> x.purseIn(3, 1));
+        all.put("tenantIn", x -> x.tenantIn(1, 1));
+        all.put("cutIn", x -> x.cutIn(3));
+        all.put("fly kite", x -> x.fly(3, 0, 0, 1));
+        all.put("fly column", x -> x.fly(0, 4, 0, 1));
+        all.put("fly row", x -> x.fly(0, 0, 3, 1));
+        all.put("strip kite", x -> x.strip(3, 0, 1));
+        all.put("strip row", x -> x.strip(0, 3, 1));
+        all.put("suspects", x -> x.suspects(3, 1));
+        all.put("strips", x -> x.strips(3));
+        all.put("duel a", x -> x.duel(3, 0, 0));
+        all.put("duel b", x -> x.duel(0, 3, 0));
+        all.put("duelStep a", x -> x.duelStep(3, 0, 1));
+        all.put("duelStep b", x -> x.duelStep(0, 3, 1));
+        all.put("share", x -> x.share(3));
+        all.put("mean", x -> x.mean(3, 0, 1));
+        all.put("too few for strip", x -> x.strip(0, 0, 2));
+        all.put("too few for suspects", x -> x.suspects(0, 2));
+        return all;
     }
 
     static void promise12_faultTellsTwoThingsAlone() {
